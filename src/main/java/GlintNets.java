@@ -232,7 +232,7 @@ public final class GlintNets {
       case 3:
         return asked.coins;
       case 4:
-        return present.takeOf(asked);
+        return asked.takeFrom(present.glintOf(asked.at));
       default:
         return finding(BEYOND);
     }
@@ -369,7 +369,8 @@ public final class GlintNets {
     for (int cell = 0; cell < CELLS; cell++) {
       trial.become(present);
       trial.boats[boat].at = cell;
-      int worth = worthInTrial(boat, n);
+      trial.passHours(n);
+      int worth = trial.boats[boat].worth();
       if (worth > most) {
         most = worth;
         best = cell;
@@ -407,7 +408,8 @@ public final class GlintNets {
     for (int net = 0; net <= MOST_NET; net++) {
       trial.become(present);
       trial.boats[boat].net = net;
-      int worth = worthInTrial(boat, n);
+      trial.passHours(n);
+      int worth = trial.boats[boat].worth();
       if (worth > most) {
         most = worth;
         best = net;
@@ -422,12 +424,14 @@ public final class GlintNets {
       return finding(BEYOND);
     }
     trial.become(present);
-    int least = worthInTrial(boat, n);
+    trial.passHours(n);
+    int least = trial.boats[boat].worth();
     int giver = -1;
     for (int thing = 0; thing < present.thingCount; thing++) {
       trial.become(present);
       trial.things[thing].light = 0;
-      int worth = worthInTrial(boat, n);
+      trial.passHours(n);
+      int worth = trial.boats[boat].worth();
       if (worth < least) {
         least = worth;
         giver = thing;
@@ -465,10 +469,12 @@ public final class GlintNets {
       return finding(BEYOND);
     }
     trial.become(present);
-    int worthAsItIs = worthInTrial(boat, n);
+    trial.passHours(n);
+    int worthAsItIs = trial.boats[boat].worth();
     trial.become(present);
     trial.boats[other].net = 0;
-    return worthInTrial(boat, n) - worthAsItIs;
+    trial.passHours(n);
+    return trial.boats[boat].worth() - worthAsItIs;
   }
 
   /**
@@ -704,12 +710,6 @@ public final class GlintNets {
     return code;
   }
 
-  /** Lets n hours go on the trial lake as it has been laid out: what the boat is worth then. */
-  private int worthInTrial(int boat, int n) {
-    trial.passHours(n);
-    return trial.boats[boat].hold + trial.boats[boat].coins;
-  }
-
   /** Whether the boat's hold, were it at the cell now, would go just as the sheet tells. */
   private boolean isTrueOf(Sheet told, int boat, int cell) {
     trial.become(present);
@@ -872,6 +872,14 @@ public final class GlintNets {
       coins = newCoins;
     }
 
+    int takeFrom(int glint) {
+      return Math.min(glint, Math.min(net, MOST_HOLD - hold));
+    }
+
+    int worth() {
+      return coins + hold;
+    }
+
     void earn(int more) {
       coins = Math.max(-MOST_COINS, Math.min(MOST_COINS, coins + more));
     }
@@ -990,10 +998,6 @@ public final class GlintNets {
       return together;
     }
 
-    int takeOf(Boat boat) {
-      return Math.min(glintOf(boat.at), Math.min(boat.net, MOST_HOLD - boat.hold));
-    }
-
     void passHours(int n) {
       for (int i = 0; i < n; i++) {
         passHour();
@@ -1018,7 +1022,7 @@ public final class GlintNets {
     }
 
     private void fishWith(Boat boat) {
-      int take = takeOf(boat);
+      int take = boat.takeFrom(glintOf(boat.at));
       if (take <= 0) {
         return;
       }

@@ -103,6 +103,7 @@ public final class PromiseTest {
     count();
     status();
     findingsChangeNothing();
+    fullLake();
     System.out.println(wrong == 0 ? asked + " answers are as due" : wrong + " answers are not as due");
     if (wrong != 0) {
       System.exit(1);
@@ -523,6 +524,9 @@ public final class PromiseTest {
     due(13, "now(4)", x.now(4), 40);
     due(13, "now(5)", x.now(5), 13 + 6);
     due(13, "now(6)", x.now(6), 6);
+    x.set(0, 3, 0);
+    due(13, "now(6)", x.now(6), 7);
+    x.set(0, 3, 40);
     x.wind(1, 1);
     due(13, "now(3)", x.now(3), 1);
     due(13, "now(5)", x.now(5), 0);
@@ -665,6 +669,10 @@ public final class PromiseTest {
     x.set(0, 2, 6);
     x.wind(0, 0);
     due(18, "brightest() by a dark steeple", x.brightest(), 45);
+    x = new GlintNets();
+    x.thing(0, 0, 1);
+    x.set(0, 3, 1);
+    due(18, "brightest(), a light of 1 at the first cell", x.brightest(), 0);
   }
 
   private static void spot() {
@@ -967,6 +975,13 @@ public final class PromiseTest {
     lakeFault("fog\n", 3);
     lakeFault("fog;rain", 4);
     lakeFault("fogs", 0);
+    lakeFault("fogz", 0);
+    lakeFault("foga", 0);
+    lakeFault("xog", 0);
+    lakeFault("fog`", 3);
+    lakeFault("fog{", 3);
+    lakeFault("fog/", 3);
+    lakeFault("fog:", 3);
     lakeFault("fo g", 0);
     lakeFault("fog;tower", 9);
     lakeFault("fog;tower ", 10);
@@ -1052,7 +1067,13 @@ public final class PromiseTest {
     due(29, "sheet(0, 0, 40)", x.sheet(0, 0, 40), 0);
     due(29, "write(0, 3, 5)", x.write(0, 3, 5), MISSING);
     due(29, "sheet(0, 8, 40)", x.sheet(0, 8, 40), 40);
-    due(29, "write(0, 39, 5), all 0", x.write(0, 39, 5), 0);
+    for (int i = 0; i < 40; i++) {
+      x.write(0, i, i + 1);
+    }
+    x.sheet(0, 8, 40);
+    for (int i = 0; i < 40; i++) {
+      due(29, "write(0, " + i + ", 5), all 0", x.write(0, i, 5), 0);
+    }
     due(29, "write(3, 0, 5), no numbers", x.write(3, 0, 5), BEYOND);
   }
 
@@ -1363,5 +1384,65 @@ public final class PromiseTest {
     due(39, "told(0, 1)", x.told(0, 1), 10);
     due(39, "now(0)", x.now(0), 0);
     due(39, "write(0, 0, 77)", x.write(0, 0, 77), 77);
+  }
+
+  /** Eight things and five boats, all in one column by day: every loop goes to its end. */
+  private static void fullLake() {
+    GlintNets x = at(8);
+    for (int i = 0; i < 8; i++) {
+      x.thing(0, 7, 6);
+      x.set(i, 3, 10 + i);
+    }
+    for (int i = 0; i < 5; i++) {
+      x.boat(47);
+      x.fit(i, 1, 99);
+    }
+    // In the last row each of 10 and 11 gives 1, of 12 to 17 gives 2.
+    due(3, "cell(47, 0)", x.cell(47, 0), 14);
+    due(3, "cell(47, 1)", x.cell(47, 1), 255);
+    due(3, "cell(47, 2)", x.cell(47, 2), 31);
+    due(3, "cell(47, 3)", x.cell(47, 3), 8);
+    due(13, "now(4)", x.now(4), 108);
+    due(13, "now(6)", x.now(6), 0);
+    due(22, "gives(0, 1)", x.gives(0, 1), 2);
+    x.set(7, 3, 18);
+    due(22, "gives(0, 1), the last", x.gives(0, 1), 7);
+    due(19, "spot(4, 1)", x.spot(4, 1), 7);
+    // The lights are 10 to 16 and 18, and one less for each boat: 15, 13, 12, 11, 10.
+    due(12, "hours(1)", x.hours(1), -40);
+    due(38, "count(4)", x.count(4), 61);
+    for (int i = 0; i < 5; i++) {
+      due(10, "told(" + i + ", 2)", x.told(i, 2), new int[] {15, 13, 12, 11, 10}[i]);
+    }
+    due(13, "now(4)", x.now(4), 109 - 40);
+    x.image();
+    x.set(7, 3, 0);
+    x.fit(4, 0, 0);
+    due(36, "undo()", x.undo(), 8);
+    due(36, "of(7, 3)", x.of(7, 3), 13);
+    due(36, "told(4, 0)", x.told(4, 0), 47);
+    // Hours 9 to 20 go, the last of them with the sale, for the fifth boat too.
+    int coins = x.on(4, 11, 1);
+    int hold = x.on(4, 11, 0);
+    x.wind(1, 1);
+    due(12, "hours(12)", x.hours(12), -40 + 61);
+    due(12, "told(4, 2), sold", x.told(4, 2), 0);
+    due(12, "told(4, 3), sold", x.told(4, 3), -8 + 10);
+    due(14, "on(4, 11, ..) before was more than nothing", coins < -8 && hold > 10 ? 1 : 0, 1);
+    everyCellCosts();
+  }
+
+  /** Towers in all rows of all columns, each dearer than what the net takes: the least loss is best. */
+  private static void everyCellCosts() {
+    GlintNets x = new GlintNets();
+    for (int column = 0; column < 8; column++) {
+      x.thing(1, column, 6);
+      x.set(column, 4, column == 5 ? 8 : 9);
+    }
+    x.boat(0);
+    x.fit(0, 1, 2);
+    due(19, "spot(0, 1), a loss everywhere", x.spot(0, 1), 5);
+    due(21, "net(0, 1), a loss with the smallest nets", x.net(0, 1), 40);
+    due(18, "brightest()", x.brightest(), 0);
   }
 }
