@@ -784,7 +784,7 @@ public final class GlintNets {
 
     int reach(int hour) {
       int clock = hour % DAY;
-      int asTower = Math.min(height + 1, ROWS);
+      int asTower = height < ROWS ? height + 1 : ROWS;
       switch (kind) {
         case TOWER:
           return asTower;
