@@ -801,7 +801,8 @@ public final class ModelTest {
     int calls = 0;
     boolean late = random.nextInt(20) == 0;
     for (int i = 0; late && i < 166; i++, calls++) if (!same("hours", 60)) return false;
-    while (calls < CALLS - 40) {
+    // A text may take some forty calls, and twenty come at the end.
+    while (calls < CALLS - 80) {
       int made = oneCall();
       if (made < 0) return false;
       calls += made;
